@@ -1,6 +1,8 @@
 import java.lang.reflect.Method;
 import java.util.ArrayList;
+import java.util.HashMap;
 import java.util.List;
+import java.util.Map;
 import java.util.Random;
 
 /** Runs at random, asked of the class and of the Oracle. */
@@ -11,6 +13,8 @@ public final class OracleTest {
         "later 1", "judge 2", "logged 2", "image 1", "back 1", "about 1", "fault 1"};
     private static final int[] EDGES = {-1, 0, 1, 2, 3, 4, 5, 59, 60, 99, 100, 199, 200, 201, 300, 301, 500, 501,
         Integer.MAX_VALUE, Integer.MIN_VALUE};
+
+    private static final Map<String, Method> METHODS = new HashMap<>();
 
     private final Random random;
     private final CableStreet street = new CableStreet();
@@ -58,8 +62,34 @@ public final class OracleTest {
                     arguments[i] = argument(call[0], i);
                 }
                 ask(call[0], arguments);
+                if (call[0].equals("run") || call[0].equals("back")) {
+                    askAll();
+                }
             }
         }
+    }
+
+    /** Everything that a TICK can change. */
+    private void askAll() throws Exception {
+        for (int what = 0; what < 14; what++) {
+            ask("about", what);
+            ask("count", what);
+        }
+        for (int what = 0; what < 5; what++) {
+            for (int i = 0; i < 6; i++) {
+                ask("car", i, what);
+                ask("rope", i, what);
+                ask("splice", i, what);
+            }
+            ask("speed", what);
+            ask("trips", what);
+            ask("strandNow", what);
+            ask("order", what);
+            for (int i = 0; i < 61; i++) {
+                ask("event", i, what);
+            }
+        }
+        ask("rolls");
     }
 
     private int argument(String call, int i) {
@@ -67,7 +97,7 @@ public final class OracleTest {
             return EDGES[random.nextInt(EDGES.length)];
         }
         switch (call + i) {
-            case "run0": return random.nextInt(random.nextInt(10) == 0 ? 500 : 25);
+            case "run0": return random.nextInt(random.nextInt(15) == 0 ? 300 : 12);
             case "event0": return random.nextInt(60);
             case "event1": return random.nextInt(5);
             case "about0": return random.nextInt(15);
@@ -135,16 +165,16 @@ public final class OracleTest {
     private void ask(String name, int... arguments) throws Exception {
         long mine = answer(street, name, arguments);
         long due = answer(oracle, name, arguments);
+        if (mine == due && name.equals("feed")) {
+            return;
+        }
         StringBuilder b = new StringBuilder(name);
         for (int a : arguments) {
             b.append(' ').append(a);
         }
         b.append(" -> ").append(mine);
-        if (!name.equals("feed")) {
-            trail.add(b.toString());
-        }
-        if (mine != due) {
-            wrong++;
+        trail.add(b.toString());
+        if (mine != due && wrong++ == 0) {
             System.out.println("text: " + text);
             System.out.println(trail.subList(Math.max(0, trail.size() - 40), trail.size()));
             System.out.println(b + ", due is " + due);
@@ -158,7 +188,12 @@ public final class OracleTest {
             types[i] = int.class;
             values[i] = arguments[i];
         }
-        Method method = it.getClass().getDeclaredMethod(name, types);
+        String key = it.getClass().getName() + name + arguments.length;
+        Method method = METHODS.get(key);
+        if (method == null) {
+            method = it.getClass().getDeclaredMethod(name, types);
+            METHODS.put(key, method);
+        }
         Object answer = method.invoke(it, values);
         return answer instanceof Boolean yes ? (yes ? 1 : 0) : (Integer) answer;
     }

@@ -37,14 +37,15 @@ final class Texts {
     }
 
     String street() {
-        int at = from(0, 8);
-        int count = from(1, 3);
+        boolean calm = often(50);
+        int at = calm ? 0 : from(0, 8);
+        int count = calm ? 1 : from(1, 3);
         for (int r = 0; r < count && at < 58; r++) {
-            int to = Math.min(59, at + (often(30) ? 59 : from(0, 25)));
+            int to = Math.min(59, at + (calm || often(30) ? 59 : from(0, 25)));
             ropeLong[r] = Math.max(10, Math.min(200, to - at + 1 + (often(20) ? 0 : from(0, 40))));
             ropeNames[r] = NAMES[r];
             put("rope", ropeNames[r], "speed", from(1, 30), "long", ropeLong[r], "from", at, "to", to, "bears",
-                    often(50) ? from(1, 1500) : from(1000, 9999));
+                    often(calm ? 20 : 50) ? from(1, 1500) : from(1000, 9999));
             ropes++;
             at = to + 1 + from(0, 6);
         }
@@ -56,7 +57,7 @@ final class Texts {
         for (int c = 0; c < from(0, 9) && c < 5; c++) {
             put("car", NAMES[c], "at", from(0, often(60) ? 20 : 59), "weighs", from(1, 99));
         }
-        marks();
+        marks(calm);
         if (often(60)) {
             put("drag", from(0, often(70) ? 2 : 9));
         }
@@ -82,11 +83,11 @@ final class Texts {
         return text.toString();
     }
 
-    private void marks() {
+    private void marks(boolean calm) {
         String[] sorts = {"let", "grip", "stop", "catch"};
         boolean[][] told = new boolean[4][60];
-        for (int m = from(0, 20); m > 0; m--) {
-            int sort = from(0, 3);
+        for (int m = from(0, calm ? 5 : 20); m > 0; m--) {
+            int sort = calm ? from(1, 3) : from(0, 3);
             int s = from(0, 59);
             if (!told[sort][s]) {
                 told[sort][s] = true;
