@@ -270,7 +270,7 @@ public final class CableStreet {
     }
 
     public int due(int splice) {
-        return plan.hasSplice(splice) ? forecast.ticksTillWorn(plan, now, splice) : NONE;
+        return forecast.ticksTillWorn(plan, now, splice);
     }
 
     public int cost(int segment, int n) {
@@ -333,7 +333,7 @@ public final class CableStreet {
     }
 
     public int coasts(int segment, int v, int what) {
-        if (!isSegment(segment) || v < -MAX_COAST || v > MAX_COAST) {
+        if (!Plan.isSegment(segment) || v < -MAX_COAST || v > MAX_COAST) {
             return NOT_POSSIBLE;
         }
         forecast.followCoast(plan, segment, v);
@@ -349,16 +349,12 @@ public final class CableStreet {
         }
     }
 
-    private static boolean isSegment(int segment) {
-        return segment >= 0 && segment < SEGMENTS;
-    }
-
     public int need(int segment) {
-        return isSegment(segment) ? forecast.leastSpeedToRope(plan, segment) : NONE;
+        return Plan.isSegment(segment) ? forecast.leastSpeedToRope(plan, segment) : NONE;
     }
 
     public int takes() {
-        return now.strandRope == NONE ? NONE : forecast.carOfStrand(plan, now);
+        return forecast.carOfStrand(plan, now);
     }
 
     public int head(int n) {
@@ -390,7 +386,7 @@ public final class CableStreet {
     }
 
     public int runaway(int car, int segment) {
-        if (!plan.hasCar(car) || !isSegment(segment) || plan.brakesHold(car, segment)) {
+        if (!plan.hasCar(car) || !Plan.isSegment(segment) || plan.brakesHold(car, segment)) {
             return NONE;
         }
         return forecast.topSpeed(plan, segment);
@@ -429,7 +425,7 @@ public final class CableStreet {
     }
 
     public int log(int car, int tick, int segment) {
-        if (!plan.hasCar(car) || tick < 1 || tick > LOG_TICKS || !isSegment(segment)) {
+        if (!plan.hasCar(car) || tick < 1 || tick > LOG_TICKS || !Plan.isSegment(segment)) {
             return NONE;
         }
         return logs.tell(car, tick, segment);
@@ -549,7 +545,7 @@ public final class CableStreet {
         }
 
         void add(int segment) {
-            if (isSegment(segment) && told < MAX_CROSSES) {
+            if (Plan.isSegment(segment) && told < MAX_CROSSES) {
                 numberOn[segment] = told;
                 told++;
                 begin[told] = stepsTold;
@@ -623,6 +619,10 @@ public final class CableStreet {
                 Arrays.fill(marks[sort], 0);
             }
             crosses.clear();
+        }
+
+        static boolean isSegment(int segment) {
+            return segment >= 0 && segment < SEGMENTS;
         }
 
         boolean hasRope(int rope) {
@@ -1093,18 +1093,22 @@ public final class CableStreet {
 
         private void readRelation(int within) {
             readSum(within);
-            int op = OP_LESS;
-            if (!skipSign('<')) {
-                op = OP_MORE;
-                if (!skipSign('>')) {
-                    op = OP_SAME;
-                    if (!skipSign('=')) {
-                        return;
-                    }
-                }
+            int op = relationHere();
+            if (op != NONE) {
+                lexer.advance();
+                readSum(within);
+                plan.crosses.addStep(op, 0);
             }
-            readSum(within);
-            plan.crosses.addStep(op, 0);
+        }
+
+        private int relationHere() {
+            if (isSign('<')) {
+                return OP_LESS;
+            }
+            if (isSign('>')) {
+                return OP_MORE;
+            }
+            return isSign('=') ? OP_SAME : NONE;
         }
 
         private void readSum(int within) {
@@ -1463,9 +1467,9 @@ public final class CableStreet {
         int load(Plan plan, int rope) {
             int sum = 0;
             for (int c = 0; c < plan.cars; c++) {
-                int segment = cars[c].segment();
-                if (cars[c].mode == GRIPS && plan.ropeOn(segment) == rope) {
-                    sum += plan.weighs[c] * (10 + plan.grade(segment));
+                if (cars[c].mode == GRIPS) {
+                    int segment = cars[c].segment();
+                    sum += plan.ropeOn(segment) == rope ? plan.weighs[c] * (10 + plan.grade(segment)) : 0;
                 }
             }
             return Math.max(sum, 0);
@@ -1612,8 +1616,7 @@ public final class CableStreet {
                 car.letGo();
             } else {
                 car.gripped = rope;
-                int speed = ropeSpeed[rope];
-                car.v = Math.min(car.v + 2, speed);
+                car.v = Math.min(car.v + 2, ropeSpeed[rope]);
             }
         }
 
@@ -1843,8 +1846,9 @@ public final class CableStreet {
         }
 
         int carOfStrand(Plan plan, State now) {
+            int rope = now.strandRope;
             trial.copyFrom(now);
-            for (int t = 0; t < HORIZON; t++) {
+            for (int t = 0; t < HORIZON && plan.hasRope(rope) && !trial.cut[rope]; t++) {
                 machine.tick(plan, trial);
                 if (trial.strandRope == NONE) {
                     return trial.strandTook;
@@ -1854,11 +1858,9 @@ public final class CableStreet {
         }
 
         int ticksTillWorn(Plan plan, State now, int splice) {
-            if (!plan.hasSplice(splice) || now.cut[plan.spliceRope[splice]]) {
-                return NONE;
-            }
+            int rope = plan.hasSplice(splice) ? plan.spliceRope[splice] : NONE;
             trial.copyFrom(now);
-            for (int t = 1; t <= HORIZON; t++) {
+            for (int t = 1; t <= HORIZON && plan.hasRope(rope) && !trial.cut[rope]; t++) {
                 machine.tick(plan, trial);
                 if (trial.wear[splice] >= plan.lasts[splice]) {
                     return t;
@@ -1874,7 +1876,7 @@ public final class CableStreet {
                 trial.cars[car].waitLonger(wait);
             }
             int least = NONE;
-            for (int t = 0; t < n; t++) {
+            for (int t = 0; t < n && least != 0; t++) {
                 machine.tick(plan, trial);
                 int gap = gapNow(plan);
                 if (gap != NONE && (least == NONE || gap < least)) {
