@@ -41,6 +41,10 @@ public final class ComingTest {
         s = Check.street(rope + "car c at 22 weighs 1;splice x on a at 15 lasts 2;splice y on a at 15 lasts 1;");
         Check.due("due of x", -1, s.due(0));
         Check.due("due of y", 1, s.due(1));
+        // A rope that dips to speed 0 keeps splice and car together: worn by 1 a TICK.
+        String still = "rope a speed 1 long 20 from 0 to 9 bears 1;car c at 3 weighs 1;splice x on a at 30 lasts ";
+        Check.due("in 500", 500, Check.street(still + "500;").due(0));
+        Check.due("in 501", -1, Check.street(still + "501;").due(0));
         // In the same TICK the one with the least number comes first.
         s = Check.street(rope + "car c at 22 weighs 1;splice x on a at 15 lasts 1;splice y on a at 15 lasts 1;");
         Check.due("due of x", 1, s.due(0));
@@ -141,6 +145,14 @@ public final class ComingTest {
         Check.due("a TICK too early", -1, s.takes());
         s.strand(0, 50);
         Check.due("as it grips again", 1, s.takes());
+        // Held back for ever, it grips as every odd TICK from the 7th on begins.
+        String held = "rope a speed 1 long 200 from 0 to 9 bears 9999;car c at 0 weighs 1;cross 1 when 0;";
+        s = Check.street(held);
+        s.strand(0, 1499);
+        Check.due("in 501", -1, s.takes());
+        s.run(1);
+        s.strand(0, 1500);
+        Check.due("in 500", 0, s.takes());
     }
 
     private static void head() {
@@ -213,6 +225,9 @@ public final class ComingTest {
         Check.due("segment -1", -1, s.runaway(0, -1));
         s = Check.street("grade 0 to 0 1;car c at 1 weighs 30;drag 1;brake 29;");
         Check.due("drag holds it", 0, s.runaway(0, 0));
+        // 8, 1, -4, -9, 0: there it ends, though it would go on and be faster later.
+        s = Check.street("grade 20 to 20 -9;grade 21 to 21 6;grade 22 to 22 -1;car c at 1 weighs 99;");
+        Check.due("till v is 0 again", 9, s.runaway(0, 20));
     }
 
     private static void order() {

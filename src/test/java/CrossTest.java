@@ -145,6 +145,10 @@ public final class CrossTest {
         s = Check.street("car c at 1 weighs 1;grade 1 to 1 9;grade 0 to 0 9;cross 0 when 0;drag 0;");
         s.run(1);
         Check.car(s, 0, 15, 0, 2);
+        // At 0 it is on the street still: 15, 10, and 0, where it may not go.
+        s = Check.street("car c at 1 weighs 1;grade 1 to 1 5;cross 0 when 0;drag 0;");
+        s.run(2);
+        Check.car(s, 0, 10, 0, 2);
         s = Check.street("car c at 1 weighs 1;grade 0 to 1 9;cross 0 when tick=2;drag 0;stop 1 for 1;brake 1;");
         s.run(2);
         Check.car(s, 0, 6, -9, 1);

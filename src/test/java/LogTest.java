@@ -140,6 +140,9 @@ public final class LogTest {
         s.untell(1);
         Check.due("earlier ones", (8 - 59) * 10 / 6, s.logged(0, 2));
         Check.due("below 0", -1000, s.logged(0, -1));
+        s.log(0, 199, 7);
+        s.log(0, 200, 9);
+        Check.due("the last TICKS", 20, s.logged(0, 2));
         Check.due("car 2", -1000, s.logged(2, 2));
         Check.due("car -1", -1000, s.logged(-1, 2));
     }
