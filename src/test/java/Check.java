@@ -1,14 +1,27 @@
 /** What the tests share: streets told by texts, and answers held against those that are due. */
 final class Check {
     private static int wrong = 0;
+    private static String sentence = "";
 
     private Check() {
+    }
+
+    /** What is asked next holds these words of the document, which QuotesTest looks for there. */
+    static void sentence(String quote) {
+        sentence = "(" + quote + ") ";
     }
 
     static void due(String what, long want, long got) {
         if (got != want) {
             wrong++;
-            System.out.println(what + " answered " + got + ", due is " + want);
+            System.out.println(sentence + what + " answered " + got + ", due is " + want);
+        }
+    }
+
+    static void same(String what, String want, String got) {
+        if (!want.equals(got)) {
+            wrong++;
+            System.out.println(sentence + what + "\n  is  " + got + "\n  due " + want);
         }
     }
 
@@ -35,7 +48,7 @@ final class Check {
         tape(street, text);
         if (street.street() == CableStreet.NONE) {
             wrong++;
-            System.out.println("fault " + street.fault(0) + " at " + street.fault(1) + " of " + text);
+            System.out.println(sentence + "fault " + street.fault(0) + " at " + street.fault(1) + " of " + text);
         }
         return street;
     }

@@ -18,7 +18,6 @@ public final class ComingTest {
         runaway();
         order();
         where();
-        leavesAllAsItWas();
         Check.end();
     }
 
@@ -257,39 +256,5 @@ public final class ComingTest {
         Check.due("place -1", -2, s.where(0, -1, 0));
         Check.due("rope 1", -2, s.where(1, 0, 0));
         Check.due("rope -1", -2, s.where(-1, 0, 0));
-    }
-
-    private static void leavesAllAsItWas() {
-        CableStreet s = Check.street(LONG_ROPE + "car c at 10 weighs 50;car d at 8 weighs 60;stop 11 for 5;turn 3;splice x on a at 5 lasts 8;cross 20 when ahead > 50;");
-        s.strand(0, 55);
-        s.run(3);
-        int before = all(s);
-        s.due(0);
-        s.cost(11, 300);
-        s.coasts(3, 9, 0);
-        s.need(4);
-        s.takes();
-        s.head(300);
-        s.spread(1, 0);
-        s.power(300, 1);
-        s.runaway(0, 5);
-        s.log(0, 9, 9);
-        s.judge(0, 0);
-        Check.due("all", before, all(s));
-        Check.due("the stop is there still", true, s.cost(11, 1) != -1000000);
-    }
-
-    private static int all(CableStreet s) {
-        int sum = 0;
-        for (int what = 0; what < 14; what++) {
-            sum = sum * 31 + (what == 4 ? 0 : s.about(what)) + 7 * s.count(what) + 3 * s.strandNow(what);
-            for (int i = 0; i < 5; i++) {
-                sum = sum * 31 + s.car(i, what) + 5 * s.speed(i) + 11 * s.rope(i, what) + 13 * s.splice(i, what);
-            }
-            for (int i = 0; i < 60; i++) {
-                sum = sum * 31 + s.event(i, what);
-            }
-        }
-        return sum;
     }
 }

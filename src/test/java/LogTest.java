@@ -175,17 +175,17 @@ public final class LogTest {
     }
 
     private static void imagesHoldAll() {
-        String text = "rope a speed 10 long 60 from 0 to 59 bears 300;car c at 59 weighs 20;car d at 57 weighs 20;car e at 4 weighs 9;"
-                + "turn 4;splice x on a at 33 lasts 3;cross 6 when tick > 20;let 7;";
+        String text = "rope a speed 10 long 60 from 0 to 59 bears 9999;car c at 59 weighs 20;car d at 57 weighs 20;car e at 4 weighs 9;"
+                + "turn 4;splice x on a at 33 lasts 3;cross 6 when tick > 12;let 7;";
         CableStreet s = Check.street(text);
         s.strand(0, 12);
         s.run(7);
         s.image(0);
         s.run(60);
-        int[] first = look(s);
+        String first = Busy.look(s);
         s.back(0);
         s.run(60);
-        int[] second = look(s);
+        Check.same("gone on again", first, Busy.look(s));
         s.back(0);
         s.run(10);
         s.halt(9);
@@ -193,32 +193,7 @@ public final class LogTest {
         s.run(30);
         s.back(0);
         s.run(60);
-        int[] third = look(s);
-        for (int i = 0; i < first.length; i++) {
-            Check.due("look " + i, first[i], second[i]);
-            Check.due("look " + i, first[i], third[i]);
-        }
-    }
-
-    private static int[] look(CableStreet s) {
-        int[] all = new int[1000];
-        int n = 0;
-        for (int what = 0; what < 14; what++) {
-            all[n++] = s.about(what);
-            all[n++] = s.count(what);
-            all[n++] = s.strandNow(what);
-            all[n++] = s.trips(what);
-            all[n++] = s.speed(what);
-            for (int i = 0; i < 3; i++) {
-                all[n++] = s.car(i, what);
-                all[n++] = s.rope(i, what);
-                all[n++] = s.splice(i, what);
-            }
-            for (int i = 0; i < 50; i++) {
-                all[n++] = s.event(i, what);
-            }
-        }
-        return all;
+        Check.same("gone on in another way between", first, Busy.look(s));
     }
 
     private static void about() {

@@ -14,6 +14,8 @@ public final class OracleTest {
     private static final int[] EDGES = {-1, 0, 1, 2, 3, 4, 5, 59, 60, 99, 100, 199, 200, 201, 300, 301, 500, 501,
         Integer.MAX_VALUE, Integer.MIN_VALUE};
 
+    /** Nothing is promised of an object behind these. */
+    private static final int CALLS_AT_MOST = 512;
     private static final Map<String, Method> METHODS = new HashMap<>();
 
     private final Random random;
@@ -21,6 +23,7 @@ public final class OracleTest {
     private final Oracle oracle = new Oracle();
     private final List<String> trail = new ArrayList<>();
     private int wrong = 0;
+    private int calls = 0;
     private String text = "";
 
     private OracleTest(long seed) {
@@ -28,7 +31,7 @@ public final class OracleTest {
     }
 
     public static void main(String[] args) throws Exception {
-        int runs = args.length > 1 ? Integer.parseInt(args[1]) : 400;
+        int runs = args.length > 1 ? Integer.parseInt(args[1]) : 2000;
         long first = args.length > 2 ? Long.parseLong(args[2]) : 1;
         int wrong = 0;
         for (long seed = first; seed < first + runs && wrong < 5; seed++) {
@@ -46,13 +49,14 @@ public final class OracleTest {
     }
 
     private void go() throws Exception {
-        for (int streets = 0; streets < 3 && wrong == 0; streets++) {
+        int streets = 1 + random.nextInt(2);
+        for (int told = 1; told <= streets && goesOn(CALLS_AT_MOST); told++) {
             String good = new Texts(random).street();
-            for (int n = random.nextInt(8); n > 0 && wrong == 0; n--) {
+            for (int n = random.nextInt(4); n > 0 && goesOn(CALLS_AT_MOST); n--) {
                 tell(Texts.spoilt(good, random));
             }
             tell(good);
-            for (int n = 0; n < 120 && wrong == 0; n++) {
+            while (goesOn(CALLS_AT_MOST * told / streets)) {
                 String[] call = CALLS[random.nextInt(CALLS.length)].split(" ");
                 if (random.nextInt(6) == 0) {
                     call = new String[] {"run", "1"};
@@ -69,23 +73,40 @@ public final class OracleTest {
         }
     }
 
-    /** Everything that a TICK can change. */
+    private boolean goesOn(int most) {
+        return wrong == 0 && calls < most;
+    }
+
+    /** What a TICK can change, of what there is. */
     private void askAll() throws Exception {
-        for (int what = 0; what < 14; what++) {
-            ask("about", what);
+        for (int what = 0; what < 8; what++) {
             ask("count", what);
         }
-        for (int what = 0; what < 5; what++) {
-            for (int i = 0; i < 6; i++) {
-                ask("car", i, what);
-                ask("rope", i, what);
-                ask("splice", i, what);
+        for (int c = 0; c < oracle.about(1); c++) {
+            for (int what : new int[] {0, 2, 3, 4}) {
+                ask("car", c, what);
             }
-            ask("speed", what);
-            ask("trips", what);
-            ask("strandNow", what);
-            ask("order", what);
-            for (int i = 0; i < 61; i++) {
+            ask("speed", c);
+            ask("trips", c);
+            ask("order", c);
+        }
+        for (int r = 0; r < oracle.about(0); r++) {
+            ask("rope", r, 0);
+            ask("rope", r, 1);
+            ask("rope", r, 2);
+        }
+        for (int i = 0; i < oracle.about(9); i++) {
+            ask("splice", i, 1);
+            ask("splice", i, 3);
+        }
+        ask("strandNow", 0);
+        ask("strandNow", 1);
+        ask("about", 3);
+        ask("about", 12);
+        ask("about", 13);
+        int kept = oracle.about(12);
+        for (int i = Math.max(0, kept - 3); i < kept; i++) {
+            for (int what = 0; what < 5; what++) {
                 ask("event", i, what);
             }
         }
@@ -163,6 +184,10 @@ public final class OracleTest {
     }
 
     private void ask(String name, int... arguments) throws Exception {
+        calls++;
+        if (calls > CALLS_AT_MOST) {
+            return;
+        }
         long mine = answer(street, name, arguments);
         long due = answer(oracle, name, arguments);
         if (mine == due && name.equals("feed")) {
