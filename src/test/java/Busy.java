@@ -4,6 +4,15 @@ final class Busy {
             + "grade 8 to 9 3;grade 20 to 23 1;car c at 4 weighs 20;car d at 12 weighs 11;car e at 58 weighs 9;"
             + "let 19;grip 24;stop 7 for 4;catch 22;turn 5;splice x on a at 25 lasts 9;splice y on b at 490 lasts 90;"
             + "cross 14 when ahead > 460 or tick > 9;brake 50;";
+    /** As many of each sort as there may be. */
+    static final String FULL = "rope a speed 10 long 20 from 0 to 9 bears 9999;rope b speed 10 long 20 from 10 to 19 bears 9999;"
+            + "rope c speed 10 long 40 from 20 to 59 bears 9999;" + "grade 30 to 40 2;".repeat(12)
+            + "car a at 1 weighs 1;car b at 3 weighs 2;car c at 9 weighs 3;car d at 17 weighs 4;car e at 58 weighs 5;"
+            + "let 5;let 6;grip 7;grip 8;stop 11 for 2;catch 12;let 41;let 42;let 43;let 44;grip 45;grip 46;grip 47;grip 48;"
+            + "stop 51 for 1;stop 52 for 1;stop 53 for 1;catch 1;catch 2;catch 3;catch 4;catch 5;catch 6;catch 7;drag 0;brake 3;"
+            + "splice a on a at 0 lasts 9;splice b on a at 1 lasts 9;splice c on b at 2 lasts 9;splice d on b at 3 lasts 9;"
+            + "splice e on c at 4 lasts 9;splice f on c at 5 lasts 9;turn 7;"
+            + "cross 21 when 1" + "+1".repeat(34) + ";cross 22 when tick;cross 23 when tick > 5;cross 24 when tick > 9;";
     private static final int BOX = 1;
     private static final int TICKS_ON = 25;
 

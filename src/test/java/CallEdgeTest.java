@@ -5,16 +5,6 @@ public final class CallEdgeTest {
     private static final String SHORT_ROPE = "rope a speed 10 long 20 from 0 to 4 bears 9999;";
     private static final int MAX = Integer.MAX_VALUE;
     private static final int MIN = Integer.MIN_VALUE;
-    /** As many of each sort as there may be. */
-    private static final String FULL = "rope a speed 10 long 20 from 0 to 9 bears 9999;rope b speed 10 long 20 from 10 to 19 bears 9999;"
-            + "rope c speed 10 long 40 from 20 to 59 bears 9999;" + "grade 30 to 40 2;".repeat(12)
-            + "car a at 1 weighs 1;car b at 3 weighs 2;car c at 9 weighs 3;car d at 17 weighs 4;car e at 58 weighs 5;"
-            + "let 5;let 6;grip 7;grip 8;stop 11 for 2;catch 12;let 41;let 42;let 43;let 44;grip 45;grip 46;grip 47;grip 48;"
-            + "stop 51 for 1;stop 52 for 1;stop 53 for 1;catch 1;catch 2;catch 3;catch 4;catch 5;catch 6;catch 7;drag 0;brake 3;"
-            + "splice a on a at 0 lasts 9;splice b on a at 1 lasts 9;splice c on b at 2 lasts 9;splice d on b at 3 lasts 9;"
-            + "splice e on c at 4 lasts 9;splice f on c at 5 lasts 9;turn 7;"
-            + "cross 21 when 1" + "+1".repeat(34) + ";cross 22 when tick;cross 23 when tick > 5;cross 24 when tick > 9;";
-
     private CallEdgeTest() {
     }
 
@@ -205,13 +195,18 @@ public final class CallEdgeTest {
     private static void streetBeginsAnew() {
         Check.sentence("(no TICKS, no STRAND, no LOGS, BOXES are empty then): how many lines");
         String fives = "car a at 3 weighs 1;car b at 4 weighs 2;car c at 5 weighs 3;car d at 6 weighs 4;car e at 59 weighs 5;";
-        String[] texts = {Busy.TEXT, FULL, "", fives, LONG_ROPE + fives + "turn 3;", SHORT_ROPE + fives,
+        String[] texts = {Busy.TEXT, Busy.FULL, "", fives, LONG_ROPE + fives + "turn 3;", SHORT_ROPE + fives,
             "rope b speed 3 long 60 from 0 to 59 bears 99;" + fives + "splice s on b at 30 lasts 2;cross 5 when 0 = 1;"};
         for (int before = 0; before < texts.length; before++) {
             for (int after = 0; after < texts.length; after++) {
                 asFresh(before + " then " + after, used(texts[before]), texts[after]);
+                CableStreet s = used(texts[before]);
+                Check.tape(s, "let 1;");
+                s.street();
+                asFresh(before + ", another, then " + after, s, texts[after]);
             }
         }
+        toldAgainAndAgain();
         // One that was cut, and cars that were caught, DONE or on the turntable.
         CableStreet s = Check.street(LONG_ROPE + "car c at 59 weighs 1;car d at 5 weighs 1;stop 5 for 3;splice x on a at 15 lasts 1;turn 9;");
         s.strand(0, 585);
@@ -225,9 +220,20 @@ public final class CallEdgeTest {
         asFresh("gripped", s, LONG_ROPE.replace("from 0", "from 20") + "car c at 5 weighs 1;");
     }
 
+    private static void toldAgainAndAgain() {
+        String text = "car c at 0 weighs 1;cross 5 when 1" + "+1".repeat(39) + ";";
+        CableStreet s = new CableStreet();
+        for (int n = 0; n < 30; n++) {
+            Check.tape(s, text);
+            Check.due("lines", 2, s.street());
+            Check.due("units", 40, s.about(11));
+            Check.due("their sum", 40, s.asks(5, 0));
+        }
+    }
+
     private static void streetFaultLeavesAll() {
         Check.sentence("NONE: a FAULT (all stays)");
-        String[] faulty = {"?", "let 60;", FULL + "?", FULL + "let 59;", "rope a speed 1 long 10 from 0 to 0 bears 1;car zz",
+        String[] faulty = {"?", "let 60;", Busy.FULL + "?", Busy.FULL + "let 59;", "rope a speed 1 long 10 from 0 to 0 bears 1;car zz",
             "grade 0 to 59 9;drag 9;brake 1;turn 1;drag 1;", Busy.TEXT.replace("50;", "0;")};
         for (String text : faulty) {
             CableStreet asked = Busy.street();
@@ -253,9 +259,9 @@ public final class CallEdgeTest {
         Check.sentence("how many lines; NONE: a FAULT");
         // What a faulty text told is forgotten: nothing in it is told already, nor too much.
         CableStreet s = Check.street("let 1;");
-        Check.tape(s, FULL + "?");
+        Check.tape(s, Busy.FULL + "?");
         Check.due("street", -1, s.street());
-        asFresh("FULL behind a faulty FULL", s, FULL);
+        asFresh("FULL behind a faulty FULL", s, Busy.FULL);
         s = Check.street("let 1;");
         Check.tape(s, Busy.TEXT + "cross 30 when (1 + 2;");
         Check.due("street", -1, s.street());
@@ -557,7 +563,7 @@ public final class CallEdgeTest {
         for (int what : new int[] {-1, 14, MAX, MIN}) {
             Check.due("about " + what, -1, s.about(what));
         }
-        s = Check.street(FULL);
+        s = Check.street(Busy.FULL);
         int[] full = {3, 5, 24, 0, 0, 0, 0, 0, 3, 6, 4, 40, 0, -1};
         for (int what = 0; what < full.length; what++) {
             Check.due("about " + what, full[what], s.about(what));

@@ -37,6 +37,7 @@ public final class CarEdgeTest {
         heldBackThenWaits();
         streetBegin();
         streetEnd();
+        doneOnesStay();
         byNumber();
         Check.end();
     }
@@ -159,6 +160,17 @@ public final class CarEdgeTest {
         s = Check.street(LONG_ROPE + "car c at 4 weighs 1;grip 4;grip 5;");
         s.run(3);
         Check.car(s, 0, 57, 6, GRIPS);
+        // One that waits, having entered, does neither grip nor let go.
+        for (String mark : new String[] {"grip 5;", "let 5;"}) {
+            s = Check.street(LONG_ROPE + "car c at 4 weighs 1;" + mark);
+            s.run(2);
+            s.halt(3);
+            s.run(1);
+            Check.car(s, 0, 51, 0, WAITS);
+            Check.due("waits", 2, s.car(0, 4));
+            s.run(2);
+            Check.car(s, 0, 51, 0, GRIPS);
+        }
         // Where there is no rope, to grip is to miss.
         s = Check.street(SHORT_ROPE + "car c at 4 weighs 1;let 4;grade 4 to 4 -9;grip 5;");
         s.run(2);
@@ -539,6 +551,22 @@ public final class CarEdgeTest {
         s.run(9);
         Check.car(s, 0, 599, 0, DONE);
         Check.due("misses", 1, s.count(0));
+    }
+
+    private static void doneOnesStay() {
+        Check.sentence("Each CAR that is not DONE");
+        // From 58 it leaves the street in one step: marks on 59, which it never entered as one that is not DONE, are nothing to it.
+        String text = "rope a speed 30 long 60 from 0 to 59 bears 9999;car c at 40 weighs 1;";
+        for (String mark : new String[] {"stop 59 for 9;", "let 59;", "grip 59;", "cross 59 when 0;", "grade 59 to 59 9;"}) {
+            CableStreet s = Check.street(text + mark);
+            s.run(13);
+            Check.car(s, 0, 405 + 182, 26, GRIPS);
+            Check.due("left by " + mark, 0, s.run(1));
+            Check.car(s, 0, 599, 0, DONE);
+            Check.due("still left", 0, s.run(9));
+            Check.car(s, 0, 599, 0, DONE);
+            Check.due("events", 0, s.about(12));
+        }
     }
 
     private static void byNumber() {

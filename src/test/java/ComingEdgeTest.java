@@ -1,3 +1,5 @@
+import java.util.function.Supplier;
+
 /** ==== 3 of the document: WHAT COMES at each bound. */
 public final class ComingEdgeTest {
     private static final String LONG_ROPE = "rope a speed 10 long 60 from 0 to 59 bears 9999;";
@@ -13,6 +15,7 @@ public final class ComingEdgeTest {
 
     public static void main(String[] args) {
         leavesAll();
+        comes();
         coastsFrom();
         coastsToARope();
         coastsTillZeroOrTurned();
@@ -73,6 +76,55 @@ public final class ComingEdgeTest {
         leaves("where", s -> s.where(0, 33, 9));
         leaves("asks", s -> s.asks(14, 1));
         leaves("judge", s -> s.judge(0, 3));
+    }
+
+    private static void comes() {
+        Check.sentence("WHAT COMES is found on what there is");
+        foretold("busy", Busy::street);
+        foretold("full", () -> {
+            CableStreet s = Check.street(Busy.FULL);
+            s.strand(2, 5);
+            s.run(3);
+            return s;
+        });
+    }
+
+    /** HEAD, POWER and PEAK are what then comes, TICK by TICK. */
+    private static void foretold(String name, Supplier<CableStreet> make) {
+        CableStreet s = make.get();
+        CableStreet asked = make.get();
+        int head = -1;
+        int power = 0;
+        int peak = 0;
+        for (int n = 1; n <= 12; n++) {
+            int loads = 0;
+            for (int r = 0; r < s.about(0); r++) {
+                loads += s.rope(r, 1) == 1 ? 0 : s.rope(r, 0);
+            }
+            power += loads;
+            peak = Math.max(peak, loads);
+            s.run(1);
+            int gap = gap(s);
+            head = gap < 0 ? head : head < 0 ? gap : Math.min(head, gap);
+            Check.due(name + ": head " + n, head, asked.head(n));
+            Check.due(name + ": power " + n, power, asked.power(n, 0));
+            Check.due(name + ": peak " + n, peak, asked.power(n, 1));
+        }
+    }
+
+    private static int gap(CableStreet s) {
+        int[] x = new int[s.about(1)];
+        int least = -1;
+        for (int a = 0; a < x.length; a++) {
+            x[a] = s.car(a, 2) == 3 ? -1 : s.car(a, 0);
+            for (int b = 0; b < a; b++) {
+                if (x[a] >= 0 && x[b] >= 0) {
+                    int gap = Math.abs(x[a] - x[b]);
+                    least = least < 0 ? gap : Math.min(least, gap);
+                }
+            }
+        }
+        return least;
     }
 
     private static void coast(CableStreet s, int segment, int v, int... due) {
@@ -252,6 +304,12 @@ public final class ComingEdgeTest {
         Check.due("1 and 2", 10, s.head(1));
         s = Check.street("car a at 3 weighs 1;car b at 3 weighs 1;car c at 7 weighs 1;");
         Check.due("one place", 0, s.head(300));
+        // d passes by c, which stands at 15.
+        s = Check.street(SLOW_ROPE + "car c at 1 weighs 1;car d at 0 weighs 1;let 1;drag 0;");
+        Check.due("2", 2, s.head(8));
+        Check.due("1", 1, s.head(9));
+        Check.due("0", 0, s.head(10));
+        Check.due("0", 0, s.head(300));
     }
 
     private static void headOfThoseNotDone() {

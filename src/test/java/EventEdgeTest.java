@@ -194,13 +194,14 @@ public final class EventEdgeTest {
         s = Check.street("car a at 3 weighs 1;car b at 40 weighs 1;");
         s.run(5);
         Check.due("far apart", 0, s.count(4));
-        // One DONE at 599, the other near it at 597.
-        s = Check.street("drag 0;car c at 59 weighs 1;car d at 58 weighs 1;grade 59 to 59 -5;grade 58 to 58 -6;");
-        s.run(1);
-        Check.due("done", 3, s.car(0, 2));
-        s.run(1);
-        Check.due("near", true, s.car(1, 0) >= 594);
-        Check.due("bumps", 0, s.count(4));
+        // One DONE at 599, the other near it at 597, whichever is told first.
+        for (int done = 0; done < 2; done++) {
+            s = Check.street(LONG_ROPE + "car c at " + (59 - done) + " weighs 1;car d at " + (58 + done) + " weighs 1;");
+            s.run(3);
+            Check.car(s, done, 599, 0, 3);
+            Check.car(s, 1 - done, 597, 6, 0);
+            Check.due("bumps", 0, s.count(4));
+        }
         Check.due("alone", 0, Check.street("car c at 5 weighs 1;").count(4));
     }
 

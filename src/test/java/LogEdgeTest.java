@@ -10,6 +10,7 @@ public final class LogEdgeTest {
 
     public static void main(String[] args) {
         sixtyLogs();
+        logsOfAnotherStreet();
         logsThatCannotBe();
         untelling();
         laterBy();
@@ -50,6 +51,27 @@ public final class LogEdgeTest {
         Check.due("false", 0, s.judge(0, 0));
         Check.due("untell 59", true, s.untell(59));
         Check.due("untell 60", false, s.untell(60));
+    }
+
+    private static void logsOfAnotherStreet() {
+        Check.sentence("no LOGS, BOXES are empty then");
+        CableStreet s = Check.street("car c at 5 weighs 1;");
+        for (int i = 0; i < 60; i++) {
+            s.log(0, 100 + i, 9);
+        }
+        Check.tape(s, "car c at 5 weighs 1;");
+        s.street();
+        Check.due("logs", 0, s.about(4));
+        Check.due("false", 0, s.judge(0, 0));
+        Check.due("first", -1, s.judge(1, 0));
+        Check.due("speed", -1000, s.logged(0, 0));
+        Check.due("untell", false, s.untell(0));
+        Check.due("log", 0, s.log(0, 7, 5));
+        Check.due("one alone", -1000, s.logged(0, 0));
+        Check.due("false", 0, s.judge(0, 0));
+        Check.due("log", 1, s.log(0, 9, 6));
+        Check.due("two", 5, s.logged(0, 0));
+        Check.due("first", 1, s.judge(1, 0));
     }
 
     private static void logsThatCannotBe() {
@@ -394,6 +416,7 @@ public final class LogEdgeTest {
     private static void carsAreKept() {
         Check.sentence("All of the CARS, ROPES, the STRAND, SPLICES, the TURNTABLE, counts, EVENTS and TICKS is kept");
         keeps("all", Busy.street(), Busy.street(), LogEdgeTest::away);
+        keeps("as many as may be", ran(Busy.FULL, 55, 9), ran(Busy.FULL, 55, 9), LogEdgeTest::away);
         // One that is CAUGHT, and has its let ahead; one that waits.
         String text = SHORT_ROPE + "car c at 3 weighs 1;car d at 1 weighs 1;let 4;stop 1 for 20;";
         keeps("caught", ran(text, 25, 2), ran(text, 25, 2), LogEdgeTest::away);
@@ -422,6 +445,17 @@ public final class LogEdgeTest {
         Check.due("back from the turntable", true, s.trips(0) > 0);
         s.back(0);
         Check.due("trips", 0, s.trips(0));
+        missesWithA(s);
+        // From b, too, which it grips on 9.
+        s = ran(text, -1, 5);
+        s.image(0);
+        s.run(15);
+        Check.due("on b", 10, s.rope(1, 0));
+        s.back(0);
+        missesWithA(s);
+    }
+
+    private static void missesWithA(CableStreet s) {
         s.halt(1);
         s.run(2);
         Check.due("misses", 1, s.count(0));
@@ -446,6 +480,18 @@ public final class LogEdgeTest {
         Check.due("a is back, and b on it", 2, s.about(13));
         s.run(9);
         Check.due("c on it", 0, s.about(13));
+        // Gone on, b has to wait, and c is DONE ahead of it; brought back, b is DONE the longest again.
+        text = LONG_ROPE + "car c at 57 weighs 1;car a at 59 weighs 1;car b at 58 weighs 1;turn 9;";
+        s = ran(text, -1, 6);
+        Check.due("all are done", 0, s.run(0));
+        s.image(0);
+        s.run(14);
+        Check.due("b is back", 1, s.trips(2));
+        s.halt(99);
+        s.run(200);
+        s.back(0);
+        s.run(5);
+        Check.due("a is back, and b on it", 2, s.about(13));
     }
 
     private static void ropesAreKept() {
@@ -508,7 +554,16 @@ public final class LogEdgeTest {
         s.back(0);
         s.run(7);
         Check.event(s, 1, 7, 0, 0, -1, 0);
-        // The latest HELD BACK likewise.
+        // The latest HELD BACK likewise: it rolls, and is held back once more, which is not yet when it is brought back.
+        s = Check.street(LONG_ROPE + "car c at 4 weighs 50;cross 5 when 0;cross 3 when 0;grade 4 to 4 5;");
+        s.run(2);
+        s.image(0);
+        s.run(2);
+        Check.event(s, 1, 3, 5, 0, -1, 0);
+        Check.event(s, 2, 4, 6, 0, -1, -1);
+        s.back(0);
+        s.run(1);
+        Check.event(s, 1, 3, 5, 0, -1, 0);
         s = Check.street(LONG_ROPE + "car c at 4 weighs 9;cross 5 when tick > 5;grade 5 to 5 2;brake 17;stop 5 for 9;");
         s.run(2);
         s.image(0);
