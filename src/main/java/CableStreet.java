@@ -768,7 +768,7 @@ public final class CableStreet {
 
         private void readWord() {
             letters = 0;
-            for (; isLetter(next); next++) {
+            for (; next < length && isLetter(next); next++) {
                 letters = letters * 27 + (text[next] - 'a' + 1);
             }
             kind = next - place <= LONGEST_WORD ? WORD : NO_TOKEN;
@@ -796,7 +796,7 @@ public final class CableStreet {
 
         private void readNumber() {
             value = 0;
-            for (; isDigit(next); next++) {
+            for (; next < length && isDigit(next); next++) {
                 value = value * 10 + (text[next] - '0');
             }
             boolean fits = next - place <= LONGEST_NUMBER && !isLetter(next);
@@ -1340,7 +1340,7 @@ public final class CableStreet {
         }
 
         int segment() {
-            return Math.max(0, Math.min(x / 10, SEGMENTS - 1));
+            return x / 10;
         }
 
         void waitFor(int ticks) {

@@ -195,7 +195,7 @@ public final class CallEdgeTest {
     private static void streetBeginsAnew() {
         Check.sentence("(no TICKS, no STRAND, no LOGS, BOXES are empty then): how many lines");
         String fives = "car a at 3 weighs 1;car b at 4 weighs 2;car c at 5 weighs 3;car d at 6 weighs 4;car e at 59 weighs 5;";
-        String[] texts = {Busy.TEXT, Busy.FULL, "", fives, LONG_ROPE + fives + "turn 3;", SHORT_ROPE + fives,
+        String[] texts = {Busy.TEXT, Busy.FULL, "", fives, LONG_ROPE + fives + "turn 3;", LONG_ROPE + fives, SHORT_ROPE + fives,
             "rope b speed 3 long 60 from 0 to 59 bears 99;" + fives + "splice s on b at 30 lasts 2;cross 5 when 0 = 1;"};
         for (int before = 0; before < texts.length; before++) {
             for (int after = 0; after < texts.length; after++) {

@@ -509,6 +509,12 @@ public final class LogEdgeTest {
         Check.due("place", 100, s.splice(0, 1));
         Check.due("strand", 0, s.strandNow(0));
         Check.due("strand", 56, s.strandNow(1));
+        // Six splices on one SEGMENT with the car, each worn in every TICK.
+        StringBuilder six = new StringBuilder(SLOW_ROPE + "car c at 10 weighs 1;");
+        for (char name = 'a'; name <= 'f'; name++) {
+            six.append("splice ").append(name).append(" on a at 99 lasts 99;");
+        }
+        keeps("six splices", ran(six.toString(), -1, 1), ran(six.toString(), -1, 1), street -> street.run(3));
         // No STRAND is kept as well as one.
         s = Check.street(text);
         s.image(0);
