@@ -342,6 +342,12 @@ public final class ComingEdgeTest {
         Check.due("head", 20, s.spread(0, 1));
         Check.due("w of d", 1, s.spread(1, 0));
         Check.due("head", 30, s.spread(1, 1));
+        // On a grade where brakes do not hold, it rolls from v 0, not from 10: 135, 131, and on, away from d at 205.
+        s = Check.street(LONG_ROPE + "grade 0 to 15 5;car c at 10 weighs 99;car d at 20 weighs 1;let 20;brake 100;");
+        s.run(5);
+        Check.car(s, 0, 135, 10, 0);
+        Check.due("w", 1, s.spread(0, 0));
+        Check.due("head", 205 - 131, s.spread(0, 1));
     }
 
     private static void spreadOfOneThatWaits() {

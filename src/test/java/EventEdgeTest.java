@@ -350,6 +350,13 @@ public final class EventEdgeTest {
         s.free(0);
         s.run(2);
         Check.event(s, 1, 3, 0, 0, -1, 0);
+        // It was so on the trip before, too.
+        s = Check.street("rope a speed 10 long 60 from 50 to 59 bears 9999;car c at 59 weighs 1;turn 1;");
+        s.strand(0, 85);
+        s.run(4);
+        Check.event(s, 0, 1, 4, 0, 0, -1);
+        Check.event(s, 1, 3, 8, 0, -1, -1);
+        Check.event(s, 2, 4, 0, 0, -1, 0);
         // Never caught: none.
         s = Check.street(SHORT_ROPE + "car c at 4 weighs 1;car d at 1 weighs 1;");
         s.strand(0, 5);
@@ -374,6 +381,13 @@ public final class EventEdgeTest {
         s.run(2);
         Check.due("rolls", 1, s.count(6));
         Check.event(s, 2, 8, 5, 0, -1, 1);
+        // On the trip before, too.
+        s = Check.street(LONG_ROPE + "car c at 58 weighs 99;cross 59 when tick > 3;turn 1;stop 0 for 5;grade 0 to 0 9;");
+        s.run(12);
+        Check.event(s, 0, 2, 6, 0, -1, -1);
+        Check.due("back", 8, s.event(1, 1));
+        Check.due("rolls", 5, s.event(2, 1));
+        Check.due("held back", 0, s.event(2, 4));
         // Not held back ever: none.
         s = Check.street(LONG_ROPE + "car c at 4 weighs 9;car d at 24 weighs 9;cross 5 when 0;grade 24 to 26 2;brake 17;");
         s.run(2);
