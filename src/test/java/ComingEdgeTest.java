@@ -182,6 +182,9 @@ public final class ComingEdgeTest {
         coast(s, 30, -5, 30, 0, 1);
         coast(s, 30, -6, -1, 0, 19);
         coast(s, 10, 0, 10, 0, 1);
+        // From v 0 on a grade it has a sign, which is another than 0 had: read so, see NOTES.md.
+        coast(s, 20, 0, 19, 0, 1);
+        coast(s, 30, 0, 30, 0, 1);
     }
 
     private static void coastsOffTheStreet() {
