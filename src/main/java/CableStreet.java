@@ -92,14 +92,14 @@ public final class CableStreet {
 
     private final byte[] tape = new byte[MAX_TEXT];
     private int taped = 0;
-    private final Reader reader = new Reader(tape);
+    private final Reader reader = new Reader();
     private Plan plan = new Plan();
     private Plan sparePlan = new Plan();
     private final State now = new State();
     private final State[] boxes = new State[BOXES];
     private final boolean[] boxFull = new boolean[BOXES];
     private final Machine machine = new Machine();
-    private final Forecast forecast = new Forecast(machine);
+    private final Forecast forecast = new Forecast();
     private final Logs logs = new Logs();
 
     public CableStreet() {
@@ -137,7 +137,7 @@ public final class CableStreet {
     }
 
     public int street() {
-        reader.open(sparePlan, taped);
+        reader.open(sparePlan, tape, taped);
         int lines = 0;
         while (lines < MAX_TEXT && reader.hasLine()) {
             reader.readLine();
@@ -717,7 +717,7 @@ public final class CableStreet {
         // The words that stand for themselves, in the order of the Reader's numbers for them.
         private static final String WORDS = "rope speed long from to bears grade car at weighs let grip stop for catch drag brake splice on lasts turn cross when or and not tick ahead behind load ";
 
-        private final byte[] text;
+        private byte[] text = new byte[0];
         private int length;
         private int next;
         int kind;
@@ -729,11 +729,8 @@ public final class CableStreet {
         /** Of a WORD its letters, packed. */
         long letters;
 
-        Lexer(byte[] text) {
-            this.text = text;
-        }
-
-        void open(int bytes) {
+        void open(byte[] tape, int bytes) {
+            text = tape;
             length = Math.max(0, Math.min(bytes, text.length));
             next = 0;
             advance();
@@ -749,6 +746,7 @@ public final class CableStreet {
                 kind = END;
             } else if (isLetter(next)) {
                 readWord();
+                word = kind == WORD ? wordNumber(letters) : NONE;
             } else if (isDigit(next)) {
                 readNumber();
             } else {
@@ -772,9 +770,6 @@ public final class CableStreet {
                 letters = letters * 27 + (text[next] - 'a' + 1);
             }
             kind = next - place <= LONGEST_WORD ? WORD : NO_TOKEN;
-            if (kind == WORD) {
-                word = wordNumber(letters);
-            }
         }
 
         private static int wordNumber(long letters) {
@@ -844,7 +839,7 @@ public final class CableStreet {
         private static final int BEHIND = 28;
         private static final int LOAD = 29;
 
-        private final Lexer lexer;
+        private final Lexer lexer = new Lexer();
         private Plan plan;
         private final long[] ropeNames = new long[MAX_ROPES];
         private final long[] carNames = new long[MAX_CARS];
@@ -855,11 +850,7 @@ public final class CableStreet {
         int fault = 0;
         int faultPlace = NONE;
 
-        Reader(byte[] text) {
-            lexer = new Lexer(text);
-        }
-
-        void open(Plan target, int bytes) {
+        void open(Plan target, byte[] tape, int bytes) {
             plan = target;
             plan.clear();
             dragTold = false;
@@ -867,7 +858,7 @@ public final class CableStreet {
             turnTold = false;
             fault = 0;
             faultPlace = NONE;
-            lexer.open(bytes);
+            lexer.open(tape, bytes);
         }
 
         boolean hasLine() {
@@ -1792,17 +1783,13 @@ public final class CableStreet {
 
     /** WHAT COMES: TICKS are tried on a copy, so that what there is stays as it was. */
     private static final class Forecast {
-        private final Machine machine;
+        private final Machine machine = new Machine();
         private final State trial = new State();
         int coastSegment;
         boolean coastMeetsRope;
         int coastTicks;
         int powerSum;
         int powerPeak;
-
-        Forecast(Machine machine) {
-            this.machine = machine;
-        }
 
         void followCoast(Plan plan, int segment, int v) {
             int x = 10 * segment;

@@ -76,6 +76,9 @@ public final class LanguageTest {
                 Check.due(m + " bears a name of its own", false, publicNames.contains(m.getName()));
                 Check.due(m + " takes few", true, m.getParameterCount() <= 7);
             }
+            for (Constructor<?> constructor : c.getDeclaredConstructors()) {
+                Check.due(constructor + " is handed something", 0, constructor.getParameterCount());
+            }
             fields(c);
         }
         fields(CableStreet.class);
